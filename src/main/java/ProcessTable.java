@@ -101,10 +101,7 @@ public final class ProcessTable {
         private void leaveEntry() {
             pid = 0;
             parent = null;
-            group = 0;
-            state = READY;
             pending = 0;
-            alarm = 0;
         }
 
         /* A child that ended, stopped or came to it: the wait is tried again. */
@@ -594,7 +591,9 @@ public final class ProcessTable {
                 p.sleep(PAUSED, ra);
                 break;
             case OP_RETURN:
-                returnFromHandler(p);
+                if (!returnFromHandler(p)) {
+                    end(p, 0);
+                }
                 break;
             case OP_ALARM:
                 setAlarm(p, ra);
@@ -764,14 +763,14 @@ public final class ProcessTable {
         }
     }
 
-    private void returnFromHandler(Proc p) {
+    private static boolean returnFromHandler(Proc p) {
         if (p.handlers <= 0 || p.handlers > MOST_HANDLERS) {
-            end(p, 0);
-            return;
+            return false;
         }
         p.handlers--;
         p.next = p.keptNext[p.handlers];
         p.blocked = p.keptBlocked[p.handlers];
+        return true;
     }
 
     private void setAlarm(Proc p, int ra) {

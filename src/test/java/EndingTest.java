@@ -13,6 +13,7 @@ public final class EndingTest {
         orphanedByTheEndOfAMember();
         groupsThatAreNotOrphaned();
         orphansInTwoGroups();
+        signalsToFreedOnes();
         panicFreesAll();
         Check.finish();
     }
@@ -216,6 +217,27 @@ public final class EndingTest {
         Check.due("6: PID 3 hung up", t.told(3, Check.HOW_ENDED), 1);
         Check.due("6: PID 4 hung up", t.told(4, Check.HOW_ENDED), 1);
         Check.due("6: TERM, CHLD, 2 HUP, 2 CONT, 2 CHLD", t.count(7), sent + 8);
+    }
+
+    private static void signalsToFreedOnes() {
+        // 1 > 2 > 3 > 4; 3 and 4 are in group 3, 4 is stopped. PID 1, to whom CHLD does nothing, kills all: the end
+        // of 2 sends HUP and CONT to 3 and 4, but those are freed ahead of them in the row.
+        ProcessTable t = Check.booted(
+            Check.FORK, 0, 0, Check.ZERO, 0, 8, Check.ACTION, 17, 1, Check.ACTION, 10, 2 + 5, Check.PAUSE, 7, 0,
+            Check.SET, 1, -1, Check.SET, 2, 9, Check.KILL, 1, 2,
+            Check.FORK, 0, 0, Check.ZERO, 0, 12, Check.PAUSE, 7, 0, Check.JUMP, 10, 0,
+            Check.JOIN, 3, 3, Check.FORK, 0, 0, Check.PAUSE, 7, 0, Check.JUMP, 14, 0);
+        t.tick(40);
+        t.kill(4, 19);
+        t.kill(1, 10);
+        t.tick(3);
+        Check.due("5: not killed yet", t.count(0), 4);
+        int sent = t.count(7);
+        t.tick(1);
+        Check.due("5: all others are freed", t.count(0), 1);
+        Check.due("14: three ended", t.count(6), 3);
+        Check.due("14: 3 KILL, 3 CHLD, 2 HUP, 2 CONT", t.count(7), sent + 10);
+        Check.due("5: PID 1 goes on", t.told(1, Check.NEXT), 8);
     }
 
     private static void panicFreesAll() {

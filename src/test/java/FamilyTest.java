@@ -3,6 +3,7 @@ public final class FamilyTest {
     public static void main(String[] args) {
         forkCopies();
         forkInAHandler();
+        forkInAFreedEntry();
         forkRefused();
         forkTakesTheFirstFreeEntry();
         newPidsGoRound();
@@ -27,12 +28,13 @@ public final class FamilyTest {
 
     private static void forkCopies() {
         ProcessTable t = Check.booted(Check.SET, 3, 33, Check.ACTION, 5, 1, Check.ACTION, 6, 9, Check.SET, 1, 1 << 5,
-            Check.MASK, 1, 0, Check.SET, 2, 50, Check.ALARM, 2, 0, Check.FORK, 0, 0, Check.PAUSE, 7, 0);
+            Check.MASK, 1, 0, Check.SET, 2, 50, Check.ALARM, 2, 0, Check.ACTION, 20, 7, Check.FORK, 0, 0,
+            Check.PAUSE, 7, 0);
         t.tick(5);
         t.kill(1, 5);
         Check.due("5: pending at the parent", t.told(1, Check.PENDING), 1 << 5);
-        t.tick(3);
-        int[] told = {Check.READY, 1, 1, 0, 8, 0, 1 << 5, 0, 0, 0};
+        t.tick(4);
+        int[] told = {Check.READY, 1, 1, 0, 9, 0, 1 << 5, 0, 0, 0};
         for (int what = 0; what < told.length; what++) {
             Check.due("5: FORK, told " + what, t.told(2, what), told[what]);
         }
@@ -41,21 +43,58 @@ public final class FamilyTest {
         Check.due("5: FORK, ra here", t.register(1, 0), 2);
         Check.due("5: FORK, action 1", t.action(2, 5), 1);
         Check.due("5: FORK, a handler", t.action(2, 6), 9);
+        Check.due("5: FORK, the last action", t.action(2, 20), 7);
         Check.due("5: FORK done", t.count(4), 1);
     }
 
     private static void forkInAHandler() {
-        ProcessTable t = Check.booted(Check.ACTION, 10, 2 + 3, Check.PAUSE, 0, 0, Check.PAUSE, 1, 0,
-            Check.FORK, 2, 0, Check.RETURN, 0, 0);
-        t.tick(2);
+        ProcessTable t = Check.booted(Check.ACTION, 10, 2 + 5, Check.SET, 3, 1 << 4, Check.MASK, 3, 0,
+            Check.PAUSE, 0, 0, Check.PAUSE, 1, 0, Check.FORK, 2, 0, Check.RETURN, 0, 0);
+        t.tick(4);
         t.kill(1, 10);
         t.tick(2);
         Check.due("5: HANDLERS under way are copied", t.told(2, Check.HANDLERS), 1);
-        Check.due("5: BLOCKED is copied", t.told(2, Check.BLOCKED), 1 << 10);
+        Check.due("5: BLOCKED is copied", t.told(2, Check.BLOCKED), 1 << 10 | 1 << 4);
         t.tick(1);
         Check.due("5: the child returns", t.told(2, Check.HANDLERS), 0);
-        Check.due("5: to the kept act", t.told(2, Check.NEXT), 2);
-        Check.due("5: with the kept BLOCKED", t.told(2, Check.BLOCKED), 0);
+        Check.due("5: to the kept act", t.told(2, Check.NEXT), 4);
+        Check.due("5: with the kept BLOCKED", t.told(2, Check.BLOCKED), 1 << 4);
+    }
+
+    private static void forkInAFreedEntry() {
+        ProcessTable t = new ProcessTable();
+        // PID 2 becomes program 1, with an alarm, a handler and what is blocked; PID 1 watches it, then forks again.
+        Check.load(t, 0, Check.FORK, 0, 0, Check.ZERO, 0, 13, Check.SET, 1, -1, Check.WATCH, 1, 2, Check.SET, 1, -1,
+            Check.WATCH, 1, 2, Check.FORK, 0, 0, Check.ZERO, 0, 15, Check.MOVE, 3, 0, Check.JOIN, 3, 4,
+            Check.SET, 1, -1, Check.WATCH, 1, 2, Check.PAUSE, 7, 0, Check.EXEC, 0, 1, Check.IDLE, 0, 0,
+            Check.PAUSE, 6, 0);
+        Check.load(t, 1, Check.SET, 5, 150, Check.ALARM, 5, 0, Check.ACTION, 10, 2 + 6, Check.SET, 5, -1,
+            Check.PAUSE, 4, 0, Check.PAUSE, 4, 0, Check.MASK, 5, 0, Check.PAUSE, 4, 0);
+        t.boot(0);
+        t.tick(30);
+        t.kill(2, 10);
+        t.tick(5);
+        t.kill(2, 15);
+        t.kill(2, 19);
+        t.tick(5);
+        Check.due("5: the stop is told", t.register(1, 2), 256 * 19 + 127);
+        Check.due("5: a handler is under way", t.told(2, Check.HANDLERS), 1);
+        Check.due("5: one is pending", t.told(2, Check.PENDING), 1 << 15);
+        t.kill(2, 9);
+        t.tick(2);
+        Check.due("5: PID 3 is in the entry that got free", t.entry(1), 3);
+        int[] told = {Check.READY, 1, 1, 0, 7, 0, 0, 0, 0, 0};
+        for (int what = 0; what < told.length; what++) {
+            Check.due("5: all is new, told " + what, t.told(3, what), told[what]);
+        }
+        Check.due("5: no handler", t.action(3, 10), 0);
+        t.tick(20);
+        Check.due("5: it did no EXEC", t.register(1, 3), 0);
+        Check.due("5: so it joins", t.told(3, 2), 3);
+        Check.due("5: PID 1 watches", t.told(1, 0), Check.WAITING);
+        t.kill(3, 20);
+        t.tick(1);
+        Check.due("5: its stop was not told", t.register(1, 2), 256 * 20 + 127);
     }
 
     private static void forkRefused() {
@@ -124,7 +163,7 @@ public final class FamilyTest {
     private static void execBecomesAnother() {
         ProcessTable t = new ProcessTable();
         Check.load(t, 0, Check.ACTION, 10, 2 + 6, Check.ACTION, 12, 1, Check.SET, 3, 33, Check.SET, 4, 99,
-            Check.ALARM, 4, 0, Check.PAUSE, 0, 0, Check.SET, 1, 1 << 12, Check.MASK, 1, 0, Check.IDLE, 0, 0,
+            Check.ALARM, 4, 0, Check.PAUSE, 0, 0, Check.SET, 1, 1 << 12, Check.MASK, 1, 0, Check.ACTION, 20, 3,
             Check.EXEC, 1, 15);
         Check.load(t, 15, Check.SET, 5, 55);
         t.boot(0);
@@ -139,6 +178,7 @@ public final class FamilyTest {
         Check.due("5: EXEC, program", t.told(1, 3), 15);
         Check.due("5: EXEC, next act", t.told(1, Check.NEXT), 0);
         Check.due("5: EXEC, handlers are 0", t.action(1, 10), 0);
+        Check.due("5: EXEC, the last handler is 0", t.action(1, 20), 0);
         Check.due("5: EXEC, nothing stays nothing", t.action(1, 12), 1);
         Check.due("5: EXEC, none under way", t.told(1, Check.HANDLERS), 0);
         Check.due("5: EXEC, BLOCKED stays", t.told(1, Check.BLOCKED), 1 << 12);

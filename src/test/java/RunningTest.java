@@ -16,6 +16,7 @@ public final class RunningTest {
         alarmsThatAreFar();
         alarmIsReplaced();
         alarmComesAheadOfTheTurn();
+        signalsOfATurnAreDoneInIt();
         Check.finish();
     }
 
@@ -47,8 +48,9 @@ public final class RunningTest {
 
     private static void bootBeginsAnewBehindPanic() {
         ProcessTable t = Check.booted(
-            Check.SET, 0, 5, Check.TELL, 0, 0, Check.ACTION, 17, 1, Check.MASK, 0, 0, Check.ALARM, 0, 0,
-            Check.FORK, 1, 0, Check.ZERO, 1, 8, Check.EXIT, 1, 0, Check.PAUSE, 0, 0);
+            Check.SET, 0, 5, Check.TELL, 0, 0, Check.ACTION, 17, 1, Check.ACTION, 20, 1, Check.MASK, 0, 0,
+            Check.ALARM, 0, 0, Check.SET, 0, 6, Check.SET, 7, 7, Check.FORK, 1, 0, Check.ZERO, 1, 11,
+            Check.EXIT, 1, 0, Check.PAUSE, 0, 0);
         t.tick(20);
         Check.due("4: panic", t.count(9), 1);
         Check.due("4: the table is free", t.count(0), 0);
@@ -59,11 +61,14 @@ public final class RunningTest {
         Check.due("4: the log stays", t.log(0, 1), 5);
         Check.due("4: counts stay", t.count(4), 1);
         Check.due("4: one process", t.count(0), 1);
-        Check.due("4: register at its beginning", t.register(1, 0), 0);
+        for (int r = 0; r < 8; r++) {
+            Check.due("4: register at its beginning", t.register(1, r), 0);
+        }
         Check.due("4: action at its beginning", t.action(1, 17), 0);
+        Check.due("4: the last action at its beginning", t.action(1, 20), 0);
         Check.due("4: blocked at its beginning", t.told(1, Check.BLOCKED), 0);
         Check.due("4: alarm at its beginning", t.told(1, Check.UNTIL_ALARM), 0);
-        t.tick(6);
+        t.tick(9);
         Check.due("4: PIDS begin anew", t.register(1, 1), 2);
     }
 
@@ -102,7 +107,7 @@ public final class RunningTest {
     }
 
     private static void turnBeginsAnewBehindBoot() {
-        // PID 3 is stopped while PID 1 ends: behind boot() the turn is with entry 0 again.
+        // PID 1 ends and leaves a child: behind boot() the turn is with entry 0 again.
         ProcessTable t = Check.booted(Check.FORK, 0, 0, Check.ZERO, 0, 3, Check.EXIT, 0, 0, Check.PAUSE, 0, 0);
         t.tick(10);
         Check.due("5: panic", t.count(9), 1);
@@ -215,6 +220,7 @@ public final class RunningTest {
         Check.due("5: what it had", t.register(1, 2), 7);
         t.tick(20);
         Check.due("5: no ALRM was sent", t.count(7), 0);
+        Check.due("5: none is under way", t.told(1, Check.UNTIL_ALARM), 0);
     }
 
     private static void alarmComesAheadOfTheTurn() {
@@ -224,7 +230,21 @@ public final class RunningTest {
         t.tick(1);
         Check.due("5: the handler began in the tick that was due", t.told(1, Check.HANDLERS), 1);
         Check.due("5: its act is next", t.told(1, Check.NEXT), 5);
+        Check.due("5: the alarm is over", t.told(1, Check.UNTIL_ALARM), 0);
         t.tick(1);
         Check.due("5: RETURN", t.told(1, Check.NEXT), 3);
+        Check.due("5: the alarm stays over", t.told(1, Check.UNTIL_ALARM), 0);
+    }
+
+    private static void signalsOfATurnAreDoneInIt() {
+        // PID 2 is killed by the last act of tick().
+        ProcessTable t = Check.booted(Check.FORK, 0, 0, Check.ZERO, 0, 5, Check.SET, 1, 9, Check.KILL, 0, 1,
+            Check.PAUSE, 7, 0, Check.PAUSE, 6, 0);
+        t.tick(1);
+        for (int i = 0; i < 20 && t.told(1, Check.NEXT) < 4; i++) {
+            Check.due("5: PID 2 lives", t.told(2, Check.HOW_ENDED), 0);
+            t.tick(1);
+        }
+        Check.due("5: PID 2 ended in the tick of KILL", t.told(2, Check.HOW_ENDED), 9);
     }
 }

@@ -24,6 +24,7 @@ public final class SignalsTest {
         blockedInterruptsNot();
         childEndsAheadOfItsSignal();
         leastSignalBegins();
+        lastSignalBegins();
         handlersNest();
         fifthHandlerEnds();
         fifthHandlerOfPidOne();
@@ -33,6 +34,7 @@ public final class SignalsTest {
         killOpRefuses();
         killOpAllButItself();
         killOpOwnGroup();
+        killOpOfPidOne();
         Check.finish();
     }
 
@@ -361,6 +363,14 @@ public final class SignalsTest {
         Check.due("5: both blocked", t.told(2, Check.BLOCKED), 1 << 12 | 1 << 3);
     }
 
+    private static void lastSignalBegins() {
+        ProcessTable t = Check.withChild(Check.ACTION, 20, 2 + 30);
+        t.kill(2, 20);
+        Check.due("6: a handled TSTP stops nobody", t.told(2, 0), Check.READY);
+        t.tick(1);
+        Check.due("5: its handler", t.told(2, Check.NEXT), 30);
+    }
+
     /** PID 2 handles 1 .. 5 at act 12 (IDLE, then RETURN). */
     private static ProcessTable handlingFive() {
         ProcessTable t = Check.withChild(Check.ACTION, 1, 2 + 12, Check.ACTION, 2, 2 + 12, Check.ACTION, 3, 2 + 12,
@@ -504,5 +514,16 @@ public final class SignalsTest {
         Check.due("5: the other", t.told(3, Check.HOW_ENDED), 15);
         Check.due("5: whose parent is 1 now", t.told(3, 1), 1);
         Check.due("5: 2 by KILL, 2 by what ended", t.count(7), 4);
+    }
+
+    private static void killOpOfPidOne() {
+        // PID 2 sends 10 to PID 1, that has a handler of it.
+        ProcessTable t = Check.booted(Check.ACTION, 10, 2 + 4, Check.FORK, 0, 0, Check.ZERO, 0, 5, Check.PAUSE, 7, 0,
+            Check.PAUSE, 5, 0, Check.SET, 1, 1, Check.SET, 2, 10, Check.KILL, 1, 2, Check.PAUSE, 6, 0);
+        t.tick(20);
+        Check.due("5: KILL 1, ra", t.register(2, 1), 0);
+        Check.due("5: PID 1 is interrupted", t.register(1, 7), -4);
+        Check.due("5: its handler began", t.told(1, Check.HANDLERS), 1);
+        Check.due("5: sent to PID 1 only", t.count(7), 1);
     }
 }

@@ -28,7 +28,8 @@ public final class TellingTest {
     }
 
     private static void toldOfAProcess() {
-        ProcessTable t = Check.withChild(Check.ACTION, 10, 2 + 8, Check.SET, 3, 70, Check.ALARM, 3, 0, Check.JOIN, 5, 5);
+        ProcessTable t = Check.withChild(Check.ACTION, 10, 2 + 8, Check.SET, 3, 70, Check.ALARM, 3, 0,
+            Check.JOIN, 5, 5);
         t.kill(2, 10);
         t.tick(1);
         t.kill(2, 10);
@@ -68,7 +69,8 @@ public final class TellingTest {
     }
 
     private static void actions() {
-        ProcessTable t = Check.booted(Check.ACTION, 1, 1, Check.ACTION, 20, 61, Check.ACTION, 9, 1, Check.ACTION, 19, 2);
+        ProcessTable t = Check.booted(Check.ACTION, 1, 1, Check.ACTION, 20, 61, Check.ACTION, 9, 1,
+            Check.ACTION, 19, 2);
         t.tick(4);
         Check.due("10: action 1", t.action(1, 1), 1);
         Check.due("10: action 20", t.action(1, 20), 61);
