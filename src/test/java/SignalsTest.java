@@ -417,9 +417,9 @@ public final class SignalsTest {
     }
 
     private static void fifthHandlerOfPidOne() {
-        ProcessTable t = Check.booted(Check.ACTION, 1, 7, Check.ACTION, 2, 7, Check.ACTION, 3, 7, Check.ACTION, 4, 7,
-            Check.ACTION, 5, 7, Check.PAUSE, 0, 0);
-        t.tick(6);
+        ProcessTable t = Check.booted(Check.ACTION, 1, 9, Check.ACTION, 2, 9, Check.ACTION, 3, 9, Check.ACTION, 4, 9,
+            Check.ACTION, 5, 9, Check.SET, 1, 99, Check.ALARM, 1, 0, Check.PAUSE, 0, 0);
+        t.tick(8);
         for (int s = 1; s <= 5; s++) {
             t.kill(1, s);
         }
@@ -427,6 +427,10 @@ public final class SignalsTest {
         Check.due("5: PID 1 lives", t.told(1, Check.HANDLERS), 4);
         t.tick(1);
         Check.due("5: PID 1 ended too", t.count(9), 1);
+        t.boot(0);
+        for (int what = Check.NEXT; what <= Check.HOW_ENDED; what++) {
+            Check.due("4: all at its beginning, told " + what, t.told(1, what), 0);
+        }
     }
 
     private static void handlerThatIsNoAct() {
