@@ -56,6 +56,48 @@ final class Check {
         return t;
     }
 
+    static void same(String what, String got, String want) {
+        if (!got.equals(want)) {
+            wrong++;
+            System.out.println(what + " is\n  " + got + "\nand was\n  " + want);
+        }
+    }
+
+    /** All that the calls tell of the counts, the log and up to four processes, in some 200 calls. */
+    static String snapshot(ProcessTable t) {
+        StringBuilder all = new StringBuilder();
+        for (int what = 0; what < 10; what++) {
+            all.append(" count ").append(t.count(what));
+        }
+        for (int i = 0; i < 3; i++) {
+            all.append(" log ").append(t.log(i, 0)).append(' ').append(t.log(i, 1));
+        }
+        int shown = 0;
+        for (int e = 0; e < 24 && shown < 4; e++) {
+            int pid = t.entry(e);
+            if (pid != 0) {
+                shown++;
+                all.append("\n  ").append(pid).append(':').append(snapshot(t, pid));
+            }
+        }
+        return all.toString();
+    }
+
+    private static String snapshot(ProcessTable t, int pid) {
+        StringBuilder all = new StringBuilder();
+        for (int what = 0; what < 10; what++) {
+            all.append(" told ").append(t.told(pid, what));
+        }
+        for (int r = 0; r < 8; r++) {
+            all.append(" register ").append(t.register(pid, r));
+        }
+        for (int s = 1; s <= 20; s++) {
+            all.append(" action ").append(t.action(pid, s));
+        }
+        all.append(" child ").append(t.child(pid, 0)).append(" members ").append(t.members(pid));
+        return all.toString();
+    }
+
     static void finish() {
         System.out.println(wrong == 0 ? "ok" : wrong + " wrong");
         if (wrong != 0) {

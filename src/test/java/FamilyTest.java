@@ -285,6 +285,10 @@ public final class FamilyTest {
             Check.SET, 0, 3, Check.EXIT, 0, 0);
         t.tick(20);
         Check.due("5: ra, then rb, are one register", t.register(1, 0), 768);
+        ProcessTable watch = new Acts().fork(0, "sleep").op(Check.WATCH, 3, 11).at("sleep").sleep().boot(20);
+        watch.kill(2, 20);
+        watch.tick(2);
+        Check.due("5: of WATCH, too", watch.register(1, 3), 256 * 20 + 127);
     }
 
     private static void waitIsTriedAgain() {

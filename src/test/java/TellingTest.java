@@ -8,6 +8,7 @@ public final class TellingTest {
         registers();
         actions();
         children();
+        childrenByEntries();
         members();
         logOfForty();
         logRefuses();
@@ -95,6 +96,18 @@ public final class TellingTest {
         for (int pid : new int[] {0, -1, 5, Check.MIN, Check.MAX}) {
             Check.due("11: child of " + pid, t.child(pid, 0), Check.UNKNOWN);
         }
+    }
+
+    /** "by ENTRIES": the younger child may be the first. */
+    private static void childrenByEntries() {
+        ProcessTable t = new Acts().fork(0, "sleep").fork(0, "sleep").set(1, 2).op(Check.WAIT, 1, 2).fork(0, "sleep")
+            .at("sleep").sleep().boot(30);
+        t.kill(2, 9);
+        t.tick(5);
+        Check.due("7: PID 4 has the entry of PID 2", t.entry(1), 4);
+        Check.due("11: the first child", t.child(1, 0), 4);
+        Check.due("11: the second", t.child(1, 1), 3);
+        Check.due("11: no third", t.child(1, 2), 0);
     }
 
     private static void members() {
