@@ -1,4 +1,4 @@
-/** 'Terms', block 3, ops 14 to 23: KILL, ACTION, MASK, PAUSE, RETURN, ALARM, OWN, PARENT, GROUP, JOIN; at their edges. */
+/** 'Terms', block 3, ops 14 to 23: KILL, ACTION, MASK, PAUSE, RETURN, ALARM, the names, JOIN; at their edges. */
 public final class SignalOpEdgesTest {
     public static void main(String[] args) {
         killOfNoSignal();

@@ -3,6 +3,7 @@ public final class TurnEdgesTest {
     public static void main(String[] args) {
         nowIsOneMore();
         ticksFromZeroTo200();
+        ticksOf512Calls();
         alarmOfOneTick();
         alarmIsOverOnce();
         alarmsRingByEntries();
@@ -57,6 +58,23 @@ public final class TurnEdgesTest {
         Check.due("5: tick(201)", t.tick(201), Check.OUTSIDE);
         Check.due("5: tick(-1)", t.tick(-1), Check.OUTSIDE);
         Check.due("14: NOW stays", t.count(3), 201);
+    }
+
+    /** "at most 512 calls after it has been made": the last of them answers as the first. */
+    private static void ticksOf512Calls() {
+        ProcessTable t = new ProcessTable();
+        new Acts().alarm(0, 100000).at("loop").jump("loop").load(t, 0);
+        t.boot(0);
+        for (int i = 0; i < 500; i++) {
+            Check.due("5: tick(200)", t.tick(200), 200);
+        }
+        Check.due("14: NOW", t.count(3), 100000);
+        Check.due("8: the alarm of tick 2", t.told(1, Check.UNTIL_ALARM), 2);
+        Check.due("5: tick(1)", t.tick(1), 1);
+        Check.due("14: not yet", t.count(7), 0);
+        Check.due("5: tick(1)", t.tick(1), 1);
+        Check.due("14: it rang", t.count(7), 1);
+        Check.due("14: NOW", t.count(3), 100002);
     }
 
     /** "ALARMS that are due (NOW is theirs)": the one of 1 TICK in the next one. */
