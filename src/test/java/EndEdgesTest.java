@@ -29,6 +29,7 @@ public final class EndEdgesTest {
         chldAheadOfHangup();
         hangupByEntries();
         hangupAheadOfCont();
+        membersOfAFormerLifeAreNone();
         Check.finish();
     }
 
@@ -447,5 +448,25 @@ public final class EndEdgesTest {
         t.kill(2, 9);
         Check.due("8: 3 is hung up", t.told(3, Check.HOW_ENDED), 1);
         Check.due("9: not interrupted ahead", t.register(3, Acts.SLEEP), 0);
+    }
+
+    /** "THE TABLE is free": 5, of group 3 too, was there till a panic, and is no member behind boot(). */
+    private static void membersOfAFormerLifeAreNone() {
+        ProcessTable t = new Acts().handle(12, "exit").fork(0, "second").at("sleep").sleep().at("second")
+            .fork(0, "third").jump("sleep").at("third").op(Check.JOIN, 1, 1).handle(10, "fork").fork(0, "sleep")
+            .jump("sleep").at("fork").op(Check.FORK, 2).op(Check.RETURN, 0).at("exit").op(Check.EXIT, 2).boot(80);
+        t.kill(4, 10);
+        t.tick(20);
+        Check.due("12: group 3 of the former life", t.members(3), 3);
+        t.kill(1, 12);
+        t.tick(20);
+        Check.due("14: panic", t.count(9), 1);
+        Check.due("12: group 3 is no more", t.members(3), 0);
+        t.boot(0);
+        t.tick(80);
+        Check.due("12: group 3 of this life", t.members(3), 2);
+        t.kill(4, 20);
+        t.kill(2, 9);
+        Check.due("8: 4 is hung up", t.told(4, Check.HOW_ENDED), 1);
     }
 }
