@@ -32,6 +32,7 @@ public final class SignalEdgesTest {
         behindAnActToPidOne();
         rowIsDoneInItsOrder();
         rowIsDoneBehindItsAct();
+        rowIsDoneOnce();
         Check.finish();
     }
 
@@ -552,5 +553,16 @@ public final class SignalEdgesTest {
         Check.due("14: none began in that turn", handled.count(8), 0);
         handled.tick(1);
         Check.due("14: but in its next", handled.count(8), 1);
+    }
+
+    /** "done one by one": each once, also the very first of an object: TSTP does not take a later CONT. */
+    private static void rowIsDoneOnce() {
+        ProcessTable t = new Acts().mask(1, 1 << 18).sleep().boot(0);
+        t.kill(1, 20);
+        t.tick(2);
+        t.kill(1, 18);
+        Check.due("6: 18 is pending", t.told(1, Check.PENDING), 1 << 18);
+        t.tick(2);
+        Check.due("6: and stays so", t.told(1, Check.PENDING), 1 << 18);
     }
 }
