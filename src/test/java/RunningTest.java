@@ -17,6 +17,7 @@ public final class RunningTest {
         alarmIsReplaced();
         alarmComesAheadOfTheTurn();
         signalsOfATurnAreDoneInIt();
+        exampleOfTheReadme();
         Check.finish();
     }
 
@@ -246,5 +247,19 @@ public final class RunningTest {
             t.tick(1);
         }
         Check.due("5: PID 2 ended in the tick of KILL", t.told(2, Check.HOW_ENDED), 9);
+    }
+
+    /** README.md shows these very calls, so that what it says of them stays true. */
+    private static void exampleOfTheReadme() {
+        ProcessTable t = new ProcessTable();
+        t.act(0, 8, 0, 0);
+        t.act(0, 5, 0, 4);
+        t.act(0, 11, 1, 2);
+        t.act(0, 17, 7, 0);
+        t.act(0, 0, 3, 7);
+        t.act(0, 10, 3, 0);
+        Check.due("README: boot", t.boot(0), 1);
+        Check.due("README: tick", t.tick(20), 8);
+        Check.due("README: register", t.register(1, 2), 1792);
     }
 }
